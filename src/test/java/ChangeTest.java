@@ -19,6 +19,7 @@ public final class ChangeTest {
         p59OutputByte();
         p60p61SaveAndRestore();
         p61RestoredWeather();
+        p61RestoredPolicies();
         Check.end();
     }
 
@@ -265,6 +266,9 @@ public final class ChangeTest {
         Check.badArgument("limit -10", () -> x.buyPicnic(0, 1, 1, 1, -10));
         Check.badState("balance 59, premium 60", () -> x.buyPicnic(1, 1, 5, 236, 0));
         Check.same("the balance just suffices", x.buyPicnic(1, 1, 5, 235, 0), 2);
+        Check.same("undone", x.undo(), 3);
+        Check.same("the balance is back", x.balance(1), 59);
+        Check.same("bought again", x.buyPicnic(1, 1, 5, 235, 0), 2);
         Check.same("nothing left", x.balance(1), 0);
         while (x.policyCount() < 20) {
             x.buyPicnic(2, 1, 1, 1, 0);
@@ -491,5 +495,54 @@ public final class ChangeTest {
         Check.same("restore again", x.restoreState(), 2);
         Check.same("the input stays", x.truncateInput(20), true);
         Check.same("the error stays", x.errorOffset(), 7);
+    }
+
+    private static void p61RestoredPolicies() {
+        WeatherInsurance x = new WeatherInsurance();
+        Check.setup(x, "holder a 900;holder b 900;assessor 0;assessor 2;reserve 0;");
+        Check.script(x, "kite a 0 1 500 5 9;picnic b 1 2 60 7;picnic a 1 2 500 45;hours 1 3 50;hours 1 3 50;hours 1 9 1;");
+        x.fileClaim(2);
+        x.fileClaim(1);
+        x.fileClaim(0);
+        Check.pass(x, 1, 0, 0);
+        x.passHour(0, 0);
+        String before = policiesAndClaims(x);
+        x.saveState();
+        for (int left = 5; left >= 0; left--) {
+            Check.same("undo down to " + left, x.undo(), left);
+        }
+        Check.same("no policy is left", x.policyCount(), 0);
+        x.buyPicnic(1, 0, 2, 33, 22);
+        x.buyKite(0, 0, 3, 44, 120, 130);
+        x.buyKite(0, 1, 1, 55, 9, 9);
+        Check.pass(x, 3, 9, 7);
+        x.fileClaim(1);
+        x.fileClaim(0);
+        x.restoreState();
+        Check.same("all of the saved state", policiesAndClaims(x), before);
+        Check.same("its next payment", x.nextPayment(), 0);
+        Check.same("its open payments", x.openPayments(), 300);
+        x.passHour(0, 0);
+        x.passHour(0, 0);
+        Check.same("granted in the order of decisions", x.openPayments(), 300 + 54 + 500);
+        x.saveState();
+        Check.setup(x, "holder c 5;assessor 1;");
+        Check.noElement("a setup drops the saved state", x::restoreState);
+        Check.same("consistent", x.isConsistent(), true);
+    }
+
+    private static String policiesAndClaims(WeatherInsurance x) {
+        StringBuilder all = new StringBuilder();
+        for (int policy = 0; policy < x.policyCount(); policy++) {
+            all.append(x.isKite(policy)).append(' ').append(x.holderOf(policy)).append(' ').append(x.firstHour(policy))
+                .append(' ').append(x.insuredHours(policy)).append(' ').append(x.cover(policy)).append(' ')
+                .append(x.premium(policy)).append(' ').append(x.damage(policy)).append(' ')
+                .append(x.claimObstacle(policy)).append('\n');
+        }
+        for (int claim = 0; claim < x.claimCount(); claim++) {
+            all.append(x.policyOf(claim)).append(' ').append(x.assessorOf(claim)).append(' ')
+                .append(x.grantedAmount(claim)).append(' ').append(x.hoursUntilDecision(claim)).append('\n');
+        }
+        return all.toString();
     }
 }

@@ -359,11 +359,18 @@ public final class QueryTest {
         x.undo();
         x.undo();
         x.buyKite(1, 200, 24, 288, 0, 0);
-        Check.same("just enough for all", x.reserve(), 183);
+        Check.same("enough for all", x.reserve(), 183);
         x.passHour(0, 0);
         Check.same("all paid", x.nextPayment(), WeatherInsurance.NONE);
         Check.same("nothing open", x.openPayments(), 0);
         Check.same("reserve", x.reserve(), 3);
+        x.undo();
+        x.undo();
+        x.buyKite(1, 200, 24, 283, 0, 0);
+        Check.same("just enough for all", x.reserve(), 180);
+        x.passHour(0, 0);
+        Check.same("the reserve is empty", x.reserve(), 0);
+        Check.same("all paid again", x.totalPaid(), 180);
     }
 
     private static void p40To46Sums() {

@@ -122,6 +122,10 @@ public final class TextTest {
         x.fileClaim(0);
         x.deposit(1, 9);
         Check.pass(x, 3, 5, 5);
+        x.buyPicnic(1, 60, 1, 500, 0);
+        x.buyPicnic(1, 60, 1, 500, 0);
+        Check.pass(x, 21, 5, 5);
+        Check.same("both lapsed", x.lapsedCount(), 2);
         x.saveState();
         x.writeClaim(0);
         Check.same("setup", Check.setup(x, "holder z 4;assessor 2;"), 1);
@@ -139,6 +143,12 @@ public final class TextTest {
         Check.noElement("no saved state", x::restoreState);
         Check.outOfBounds("no past hour", () -> x.wind(0));
         Check.same("consistent", x.isConsistent(), true);
+        Check.script(x, "picnic z 0 1 40 0;hours 1 0 50;");
+        Check.same("new policies have not lapsed", x.hasLapsed(0), false);
+        Check.same("a new claim", x.fileClaim(0), 0);
+        Check.same("new claims are undecided", x.isUndecided(0), true);
+        Check.same("with nothing granted", x.grantedAmount(0), 0);
+        Check.same("with no work done", x.hoursUntilDecision(0), 4);
     }
 
     private static void p04InvalidSetupLeavesEverything() {
@@ -185,6 +195,8 @@ public final class TextTest {
         setupError("assessor", syntax, 8);
         setupError(";", syntax, 0);
         setupError("5", syntax, 0);
+        setupError("xolder a 5;", syntax, 0);
+        setupError("holdex a 5;", syntax, 0);
         setupError(" holders a 5;", syntax, 1);
         setupError("holder abcdefg 5;", syntax, 7);
         setupError("holder abcdefghi 5;", syntax, 7);
@@ -250,6 +262,7 @@ public final class TextTest {
 
     private static void p05ExecutionStops() {
         WeatherInsurance x = new WeatherInsurance();
+        Check.same("no policy 19", Check.script(x, "claim 19;deposit ann 1;"), 0);
         Check.same("no such policy", Check.script(x, "hours 1 1 1;claim 0;hours 5 5 5;"), 1);
         Check.same("the first stays executed", x.clock(), 1);
         Check.same("first hour has passed", Check.script(x, "kite ann 0 1 1 0 0;"), 0);
@@ -257,7 +270,11 @@ public final class TextTest {
         Check.same("first hour is now", Check.script(x, "kite ann 1 1 1 0 0;picnic ann 1 1 1 0;"), 2);
         Check.same("no money", Check.script(x, "picnic bob 5 24 500 0;"), 0);
         Check.same("no money for a kite", Check.script(x, "kite bob 5 24 500 0 1;"), 0);
-        Check.same("policies", x.policyCount(), 2);
+        Check.same("the limit makes it cheap enough", Check.script(x, "picnic bob 1 24 280 50;"), 1);
+        Check.same("56 of 60 are paid", x.balance(1), 3);
+        Check.same("the premium is too high by one", Check.script(x, "picnic bob 1 1 60 0;"), 0);
+        Check.same("the premium is just right", Check.script(x, "picnic bob 1 1 59 0;"), 1);
+        Check.same("policies", x.policyCount(), 4);
         Check.same("not over", Check.script(x, "claim 0;"), 0);
         Check.same("up to the limit", Check.script(x, "hours 47 0 0;" + repeat("hours 48 0 0;", 19)), 20);
         Check.same("clock", x.clock(), 960);
