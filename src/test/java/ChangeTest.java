@@ -20,6 +20,7 @@ public final class ChangeTest {
         p60p61SaveAndRestore();
         p61RestoredWeather();
         p61RestoredPolicies();
+        p61RestoredOrderOfPayments();
         Check.end();
     }
 
@@ -529,6 +530,22 @@ public final class ChangeTest {
         Check.setup(x, "holder c 5;assessor 1;");
         Check.noElement("a setup drops the saved state", x::restoreState);
         Check.same("consistent", x.isConsistent(), true);
+    }
+
+    private static void p61RestoredOrderOfPayments() {
+        WeatherInsurance x = new WeatherInsurance();
+        Check.setup(x, "holder a 99;assessor 9;assessor 0;reserve 0;");
+        Check.script(x, "kite a 0 1 400 5 9;picnic a 0 1 400 0;hours 1 0 50;");
+        Check.script(x, "claim 0;claim 1;hours 2 0 0;");
+        x.saveState();
+        x.undo();
+        Check.script(x, "claim 0;hours 11 0 0;");
+        Check.same("the only claim", x.nextPayment(), 0);
+        x.restoreState();
+        Check.same("the second claim was decided first", x.nextPayment(), 1);
+        Check.pass(x, 9, 0, 0);
+        Check.same("and still is", x.nextPayment(), 1);
+        Check.same("both are open", x.openPayments(), 400 + 220);
     }
 
     private static String policiesAndClaims(WeatherInsurance x) {
