@@ -32,7 +32,7 @@ public final class ModelTest {
         }
         for (int call = 0; call < STEPS; call++) {
             step();
-            String got = seen();
+            String got = x.errorCode() + " " + x.errorOffset() + " " + Check.seen(x);
             String due = expected();
             if (!got.equals(due)) {
                 Check.same(name + ", call " + call + ", " + told, got, due);
@@ -240,37 +240,6 @@ public final class ModelTest {
     }
 
     // ---- all that can be seen ----
-
-    private String seen() {
-        StringBuilder s = new StringBuilder();
-        s.append(x.errorCode()).append(' ').append(x.errorOffset()).append(' ').append(Check.output(x)).append('\n');
-        s.append(x.clock()).append(' ').append(x.reserve()).append(' ').append(x.totalPremiums()).append(' ')
-            .append(x.totalPaid()).append(' ').append(x.totalDeposits()).append(' ').append(x.lapsedCount()).append(' ')
-            .append(x.luckiestHolder()).append(' ').append(x.nextPayment()).append(' ').append(x.openPayments()).append(' ')
-            .append(x.nextAssessor()).append(' ').append(x.lossRatio()).append(' ').append(x.grantedPart()).append(' ')
-            .append(x.isConsistent()).append('\n');
-        for (int h = 0; h < x.holderCount(); h++) {
-            s.append(Check.name(x, h)).append(' ').append(x.balance(h)).append(' ').append(x.dailyPremiums(h)).append('\n');
-        }
-        for (int a = 0; a < x.assessorCount(); a++) {
-            s.append(x.strictness(a)).append(' ').append(x.workload(a)).append('\n');
-        }
-        for (int h = Math.max(0, x.clock() - 60); h < x.clock(); h++) {
-            s.append(x.wind(h)).append('/').append(x.rain(h)).append(' ');
-        }
-        for (int p = 0; p < x.policyCount(); p++) {
-            s.append('\n').append(x.isKite(p)).append(' ').append(x.holderOf(p)).append(' ').append(x.firstHour(p)).append(' ')
-                .append(x.insuredHours(p)).append(' ').append(x.cover(p)).append(' ').append(x.premium(p)).append(' ')
-                .append(x.isActive(p)).append(' ').append(x.hasLapsed(p)).append(' ').append(x.damage(p)).append(' ')
-                .append(x.claimObstacle(p)).append(' ').append(x.hoursUntilLapse(p));
-        }
-        for (int c = 0; c < x.claimCount(); c++) {
-            s.append('\n').append(x.policyOf(c)).append(' ').append(x.assessorOf(c)).append(' ').append(x.isUndecided(c))
-                .append(' ').append(x.isDenied(c)).append(' ').append(x.isPaid(c)).append(' ').append(x.grantedAmount(c))
-                .append(' ').append(x.hoursUntilDecision(c));
-        }
-        return s.toString();
-    }
 
     private String expected() {
         StringBuilder s = new StringBuilder();

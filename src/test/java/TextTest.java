@@ -172,60 +172,53 @@ public final class TextTest {
         Check.same("undo after an invalid setup", y.undo(), 0);
     }
 
-    private static void setupError(String text, int code, int offset) {
-        WeatherInsurance x = new WeatherInsurance();
-        Check.same("setup <" + text + ">", Check.setup(x, text), WeatherInsurance.NONE);
-        Check.same("code of <" + text + ">", x.errorCode(), code);
-        Check.same("offset of <" + text + ">", x.errorOffset(), offset);
-    }
-
     private static void p04SetupErrors() {
         int syntax = WeatherInsurance.SYNTAX;
         int range = WeatherInsurance.OUT_OF_RANGE;
-        setupError("", WeatherInsurance.TOO_FEW, 0);
-        setupError(" \n ", WeatherInsurance.TOO_FEW, 3);
-        setupError("holder a 5; ", WeatherInsurance.TOO_FEW, 12);
-        setupError("assessor 5;", WeatherInsurance.TOO_FEW, 11);
-        setupError("reserve 5;", WeatherInsurance.TOO_FEW, 10);
-        setupError("holder", syntax, 6);
-        setupError("holder  ", syntax, 8);
-        setupError("holder a", syntax, 8);
-        setupError("holder a 5", syntax, 10);
-        setupError("holder a 5 ", syntax, 11);
-        setupError("assessor", syntax, 8);
-        setupError(";", syntax, 0);
-        setupError("5", syntax, 0);
-        setupError("xolder a 5;", syntax, 0);
-        setupError("holdex a 5;", syntax, 0);
-        setupError(" holders a 5;", syntax, 1);
-        setupError("holder abcdefg 5;", syntax, 7);
-        setupError("holder abcdefghi 5;", syntax, 7);
-        setupError("assessors 5;", syntax, 0);
-        setupError("holder Ann 5;", syntax, 7);
-        setupError("holder anN 5;", syntax, 9);
-        setupError("holder 7 5;", syntax, 7);
-        setupError("holder ; 5;", syntax, 7);
-        setupError("holder a b;", syntax, 9);
-        setupError("holder a;", syntax, 8);
-        setupError("holder a 12345;", syntax, 9);
-        setupError("holder a 00005;", syntax, 9);
-        setupError("holder a 5 6;", syntax, 11);
-        setupError("holder a 5 assessor 1;", syntax, 11);
-        setupError("holder a -5;", syntax, 9);
-        setupError("holder\ta 5;", syntax, 6);
-        setupError("assessor 10;", range, 9);
-        setupError("assessor 9999;", range, 9);
-        setupError("assessor x;", syntax, 9);
-        setupError("reserve 10000;", syntax, 8);
-        setupError("holder ann 5;holder ann 12345;", WeatherInsurance.BAD_NAME, 20);
-        setupError("holder ann 5;holder bob 5;holder ann;", WeatherInsurance.BAD_NAME, 33);
-        setupError("holder abcdefg 5;holder abcdefg 5;", syntax, 7);
+        Check.badSetup("", WeatherInsurance.TOO_FEW, 0);
+        Check.badSetup(" \n ", WeatherInsurance.TOO_FEW, 3);
+        Check.badSetup("holder a 5; ", WeatherInsurance.TOO_FEW, 12);
+        Check.badSetup("assessor 5;", WeatherInsurance.TOO_FEW, 11);
+        Check.badSetup("reserve 5;", WeatherInsurance.TOO_FEW, 10);
+        Check.badSetup("holder", syntax, 6);
+        Check.badSetup("holder  ", syntax, 8);
+        Check.badSetup("holder a", syntax, 8);
+        Check.badSetup("holder a 5", syntax, 10);
+        Check.badSetup("holder a 5 ", syntax, 11);
+        Check.badSetup("assessor", syntax, 8);
+        Check.badSetup(";", syntax, 0);
+        Check.badSetup("5", syntax, 0);
+        Check.badSetup("xolder a 5;", syntax, 0);
+        Check.badSetup("holdex a 5;", syntax, 0);
+        Check.badSetup(" holders a 5;", syntax, 1);
+        Check.badSetup("holder abcdefg 5;", syntax, 7);
+        Check.badSetup("holder abcdefghi 5;", syntax, 7);
+        Check.badSetup("assessors 5;", syntax, 0);
+        Check.badSetup("holder Ann 5;", syntax, 7);
+        Check.badSetup("holder anN 5;", syntax, 9);
+        Check.badSetup("holder 7 5;", syntax, 7);
+        Check.badSetup("holder ; 5;", syntax, 7);
+        Check.badSetup("holder a b;", syntax, 9);
+        Check.badSetup("holder a;", syntax, 8);
+        Check.badSetup("holder a 12345;", syntax, 9);
+        Check.badSetup("holder a 00005;", syntax, 9);
+        Check.badSetup("holder a 5 6;", syntax, 11);
+        Check.badSetup("holder a 5 assessor 1;", syntax, 11);
+        Check.badSetup("holder a -5;", syntax, 9);
+        Check.badSetup("holder\ta 5;", syntax, 6);
+        Check.badSetup("assessor 10;", range, 9);
+        Check.badSetup("assessor 9999;", range, 9);
+        Check.badSetup("assessor x;", syntax, 9);
+        Check.badSetup("reserve 10000;", syntax, 8);
+        Check.badSetup("holder ann 5;holder ann 12345;", WeatherInsurance.BAD_NAME, 20);
+        Check.badSetup("holder ann 5;holder bob 5;holder ann;", WeatherInsurance.BAD_NAME, 33);
+        Check.badSetup("holder abcdefg 5;holder abcdefg 5;", syntax, 7);
         String eight = "holder a 1;holder b 2;holder c 3;holder d 4;holder e 5;holder f 6;holder g 7;holder h 8;";
-        setupError(eight + " holder a", WeatherInsurance.TOO_MANY, 89);
-        setupError(eight + "holde", syntax, 88);
-        setupError(eight, WeatherInsurance.TOO_FEW, 88);
-        setupError("assessor 1;assessor 2;assessor 3;assessor", WeatherInsurance.TOO_MANY, 33);
-        setupError("hours 1 1 1;", syntax, 0);
+        Check.badSetup(eight + " holder a", WeatherInsurance.TOO_MANY, 89);
+        Check.badSetup(eight + "holde", syntax, 88);
+        Check.badSetup(eight, WeatherInsurance.TOO_FEW, 88);
+        Check.badSetup("assessor 1;assessor 2;assessor 3;assessor", WeatherInsurance.TOO_MANY, 33);
+        Check.badSetup("hours 1 1 1;", syntax, 0);
     }
 
     private static void p05RunScript() {
@@ -276,7 +269,7 @@ public final class TextTest {
         Check.same("the premium is just right", Check.script(x, "picnic bob 1 1 59 0;"), 1);
         Check.same("policies", x.policyCount(), 4);
         Check.same("not over", Check.script(x, "claim 0;"), 0);
-        Check.same("up to the limit", Check.script(x, "hours 47 0 0;" + repeat("hours 48 0 0;", 19)), 20);
+        Check.same("up to the limit", Check.script(x, "hours 47 0 0;" + "hours 48 0 0;".repeat(19)), 20);
         Check.same("clock", x.clock(), 960);
         Check.same("too late", Check.script(x, "claim 0;"), 0);
         Check.same("all hours or none", Check.script(x, "deposit ann 1;hours 41 0 0;hours 40 0 0;"), 1);
@@ -285,77 +278,59 @@ public final class TextTest {
         Check.same("clock at its limit", x.clock(), 1000);
         Check.same("buying at the limit", Check.script(x, "kite ann 1000 1 1 0 0;kite ann 999 1 1 0 0;"), 1);
         WeatherInsurance y = new WeatherInsurance();
-        Check.same("twenty policies", Check.script(y, repeat("kite cid 0 1 1 0 0;", 21)), 20);
+        Check.same("twenty policies", Check.script(y, "kite cid 0 1 1 0 0;".repeat(21)), 20);
         Check.same("policies", y.policyCount(), 20);
-    }
-
-    private static String repeat(String text, int times) {
-        StringBuilder all = new StringBuilder();
-        for (int i = 0; i < times; i++) {
-            all.append(text);
-        }
-        return all.toString();
-    }
-
-    private static void scriptError(String text, int code, int offset) {
-        WeatherInsurance x = new WeatherInsurance();
-        Check.same("script <" + text + ">", Check.script(x, text), WeatherInsurance.NONE);
-        Check.same("code of <" + text + ">", x.errorCode(), code);
-        Check.same("offset of <" + text + ">", x.errorOffset(), offset);
-        Check.same("buffer after <" + text + ">", x.truncateInput(1), false);
-        Check.same("clock after <" + text + ">", x.clock(), 0);
-        Check.noElement("no change by <" + text + ">", x::undo);
     }
 
     private static void p05ScriptErrors() {
         int syntax = WeatherInsurance.SYNTAX;
         int range = WeatherInsurance.OUT_OF_RANGE;
         int name = WeatherInsurance.BAD_NAME;
-        scriptError("hours 0 0 0;", range, 6);
-        scriptError("hours 49 0 0;", range, 6);
-        scriptError("hours 1 151 0;", range, 8);
-        scriptError("hours 1 0 51;", range, 10);
-        scriptError("hours 1 0;", syntax, 9);
-        scriptError("hours 1 0 0", syntax, 11);
-        scriptError("hours 1 0 0 0;", syntax, 12);
-        scriptError("hours 5 5 5;kite ann", syntax, 20);
-        scriptError("kite dan 0 1 1 0 0;", name, 5);
-        scriptError("kite an 0 1 1 0 0;", name, 5);
-        scriptError("kite anna 0 1 1 0 0;", name, 5);
-        scriptError("kite abcdefg 0 1 1 0 0;", syntax, 5);
-        scriptError("kite 5 0 1 1 0 0;", syntax, 5);
-        scriptError("kite ann 1001 1 1 0 0;", range, 9);
-        scriptError("kite ann 0 0 1 0 0;", range, 11);
-        scriptError("kite ann 0 25 1 0 0;", range, 11);
-        scriptError("kite ann 0 1 0 0 0;", range, 13);
-        scriptError("kite ann 0 1 501 0 0;", range, 13);
-        scriptError("kite ann 0 1 1 151 0;", range, 15);
-        scriptError("kite ann 0 1 1 0 151;", range, 17);
-        scriptError("kite ann 0 1 1 9 8;", range, 17);
-        scriptError("kite ann 0 1 1 9 08888;", syntax, 17);
-        scriptError("picnic dan 0 1 1 0;", name, 7);
-        scriptError("picnic ann 1001 1 1 0;", range, 11);
-        scriptError("picnic ann 0 0 1 0;", range, 13);
-        scriptError("picnic ann 0 25 1 0;", range, 13);
-        scriptError("picnic ann 0 1 0 0;", range, 15);
-        scriptError("picnic ann 0 1 501 0;", range, 15);
-        scriptError("picnic ann 0 1 1 51;", range, 17);
-        scriptError("claim 20;", range, 6);
-        scriptError("claim ann;", syntax, 6);
-        scriptError("deposit ann 0;", range, 12);
-        scriptError("deposit ann 1000;", range, 12);
-        scriptError("deposit dan 0;", name, 8);
-        scriptError("holder ann 5;", syntax, 0);
-        scriptError(";", syntax, 0);
-        scriptError("12", syntax, 0);
-        scriptError("hours 1 1 1;;", syntax, 12);
-        scriptError("claim 1,", syntax, 7);
-        String thirty = repeat("claim 0;", 30);
-        scriptError(thirty + " claim 99;", WeatherInsurance.TOO_MANY, 241);
-        scriptError(thirty + "hours", WeatherInsurance.TOO_MANY, 240);
-        scriptError(thirty + "claims 0;", syntax, 240);
-        scriptError(thirty + "8", syntax, 240);
-        scriptError(repeat("claim 0;", 29) + "claim 99;claim 0;", range, 238);
+        Check.badScript("hours 0 0 0;", range, 6);
+        Check.badScript("hours 49 0 0;", range, 6);
+        Check.badScript("hours 1 151 0;", range, 8);
+        Check.badScript("hours 1 0 51;", range, 10);
+        Check.badScript("hours 1 0;", syntax, 9);
+        Check.badScript("hours 1 0 0", syntax, 11);
+        Check.badScript("hours 1 0 0 0;", syntax, 12);
+        Check.badScript("hours 5 5 5;kite ann", syntax, 20);
+        Check.badScript("kite dan 0 1 1 0 0;", name, 5);
+        Check.badScript("kite an 0 1 1 0 0;", name, 5);
+        Check.badScript("kite anna 0 1 1 0 0;", name, 5);
+        Check.badScript("kite abcdefg 0 1 1 0 0;", syntax, 5);
+        Check.badScript("kite 5 0 1 1 0 0;", syntax, 5);
+        Check.badScript("kite ann 1001 1 1 0 0;", range, 9);
+        Check.badScript("kite ann 0 0 1 0 0;", range, 11);
+        Check.badScript("kite ann 0 25 1 0 0;", range, 11);
+        Check.badScript("kite ann 0 1 0 0 0;", range, 13);
+        Check.badScript("kite ann 0 1 501 0 0;", range, 13);
+        Check.badScript("kite ann 0 1 1 151 0;", range, 15);
+        Check.badScript("kite ann 0 1 1 0 151;", range, 17);
+        Check.badScript("kite ann 0 1 1 9 8;", range, 17);
+        Check.badScript("kite ann 0 1 1 9 08888;", syntax, 17);
+        Check.badScript("picnic dan 0 1 1 0;", name, 7);
+        Check.badScript("picnic ann 1001 1 1 0;", range, 11);
+        Check.badScript("picnic ann 0 0 1 0;", range, 13);
+        Check.badScript("picnic ann 0 25 1 0;", range, 13);
+        Check.badScript("picnic ann 0 1 0 0;", range, 15);
+        Check.badScript("picnic ann 0 1 501 0;", range, 15);
+        Check.badScript("picnic ann 0 1 1 51;", range, 17);
+        Check.badScript("claim 20;", range, 6);
+        Check.badScript("claim ann;", syntax, 6);
+        Check.badScript("deposit ann 0;", range, 12);
+        Check.badScript("deposit ann 1000;", range, 12);
+        Check.badScript("deposit dan 0;", name, 8);
+        Check.badScript("holder ann 5;", syntax, 0);
+        Check.badScript(";", syntax, 0);
+        Check.badScript("12", syntax, 0);
+        Check.badScript("hours 1 1 1;;", syntax, 12);
+        Check.badScript("claim 1,", syntax, 7);
+        String thirty = "claim 0;".repeat(30);
+        Check.badScript(thirty + " claim 99;", WeatherInsurance.TOO_MANY, 241);
+        Check.badScript(thirty + "hours", WeatherInsurance.TOO_MANY, 240);
+        Check.badScript(thirty + "claims 0;", syntax, 240);
+        Check.badScript(thirty + "8", syntax, 240);
+        Check.badScript("claim 0;".repeat(29) + "claim 99;claim 0;", range, 238);
     }
 
     private static void p05ScriptIsOneChange() {
