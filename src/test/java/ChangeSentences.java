@@ -703,6 +703,37 @@ final class ChangeSentences {
         plain(60, "Returns the time on the clock.");
     }
 
+    /** What was undone is overwritten, and yet the saved state is what it was: policies, weather, claims, payments. */
+    private static void restoreAfterUndo() {
+        WeatherInsurance y = saved();
+        WeatherInsurance z = saved();
+        String saved = Check.seen(y);
+        y.saveState();
+        for (int left = 1; left >= 0; left--) {
+            Check.same("undo", y.undo(), left);
+        }
+        Check.same("no policy", y.policyCount(), 0);
+        Check.whole(y, "kite a 0 7 8 10 90;picnic b 1 4 5 6;picnic b 0 3 33 1;kite a 2 2 22 70 80;hours 9 9 9;");
+        Check.whole(y, "claim 3;claim 2;claim 1;claim 0;hours 40 40 40;");
+        Check.same("other policies, claims and hours were in their places",
+            y.isKite(2) + " " + y.policyOf(0) + " " + y.rain(0) + " " + y.openPayments(), "false 3 9 60");
+        y.restoreState();
+        Check.same("all of the saved ones are back", Check.seen(y), saved);
+        for (int hour = 0; hour < 40; hour++) {
+            Check.same("the same is decided", y.passHour(hour, 0), z.passHour(hour, 0));
+            Check.same("and goes on as if nothing had been between", Check.seen(y), Check.seen(z));
+        }
+        Check.same("to its end", y.openPayments() > 0 && y.grantedPart() == 1f, true);
+    }
+
+    /** Two assessors, four policies, their claims; the third claim is granted first, and none is paid. */
+    private static WeatherInsurance saved() {
+        WeatherInsurance x = Check.with("holder a 99;holder b 99;assessor 7;assessor 0;reserve 0;");
+        Check.whole(x, "kite a 0 4 400 5 9;picnic a 1 2 300 45;kite b 1 2 200 30 50;picnic b 0 4 150 9;hours 2 6 20;hours 2 40 34;");
+        Check.whole(x, "claim 0;claim 1;hours 2 0 0;claim 2;hours 4 0 0;claim 3;");
+        return x;
+    }
+
     private void restoreState() {
         test(61, "Restores the saved state, which stays saved.");
         WeatherInsurance x = PromiseSentences.busy();
@@ -715,18 +746,7 @@ final class ChangeSentences {
             Check.same("restore", x.restoreState(), 25);
             Check.same("round " + round, Check.seen(x), saved);
         }
-        WeatherInsurance y = PromiseSentences.busy();
-        for (int left = 2; left >= 0; left--) {
-            Check.same("undo", y.undo(), left);
-        }
-        Check.whole(y, "picnic bob 3 4 5 6;kite cid 0 7 8 0 9;hours 9 9 9;claim 0;claim 1;hours 48 1 1;");
-        Check.same("other policies and claims were in their places", y.isKite(0) + " " + y.policyOf(1) + " " + y.rain(0), "false 1 9");
-        y.restoreState();
-        Check.same("all of the saved ones are back", Check.seen(y), saved);
-        WeatherInsurance z = PromiseSentences.busy();
-        Check.pass(y, 20, 0, 0);
-        Check.pass(z, 20, 0, 0);
-        Check.same("and go on as if nothing had been between", Check.seen(y), Check.seen(z));
+        restoreAfterUndo();
         test(61, "No change can be undone afterwards.");
         x.deposit(0, 1);
         x.restoreState();

@@ -258,7 +258,8 @@ final class PromiseSentences {
         // what comes then does not see what was before
         WeatherInsurance y = Check.with(setup);
         for (WeatherInsurance each : new WeatherInsurance[] {x, y}) {
-            Check.whole(each, "kite ann 0 3 40 5 9;picnic ann 0 1 40 3;kite bob 30 1 40 0 0;hours 1 0 4;claim 1;hours 1 7 1;");
+            Check.whole(each, "kite ann 0 3 40 5 9;picnic ann 0 1 40 3;kite bob 30 1 40 0 0;kite bob 30 1 40 0 0;"
+                + "picnic bob 1 1 9 9;hours 1 0 4;claim 1;hours 1 7 1;");
         }
         Check.same("the same as in a new object", Check.seen(x), output + Check.seen(y));
         Check.same("one change", x.undo(), 0);
@@ -736,7 +737,7 @@ final class PromiseSentences {
         plain(41, "Returns the sum of all claims paid.");
         plain(42, "Returns the sum of all deposits.");
         luckiestHolder();
-        plain(44, "Returns the number of policies that have lapsed.", "Returns the number of policies.");
+        lapsedCount();
         lossRatio();
         grantedPart();
     }
@@ -759,6 +760,31 @@ final class PromiseSentences {
         Check.same("49 for the first are one less", x.luckiestHolder(), 1);
         Check.pass(x, 2, 0, 0);
         Check.same("51 for the first are one more", x.luckiestHolder(), 0);
+    }
+
+    private void lapsedCount() {
+        plain(44, "Returns the number of policies.");
+        test(44, "Returns the number of policies that have lapsed.");
+        WeatherInsurance x = Check.with("holder a 99;assessor 0;");
+        Check.same("no policy", x.lapsedCount(), 0);
+        for (int policy = 0; policy < 20; policy++) {
+            x.buyKite(0, 60, 1, 120, 0, 0);
+        }
+        Check.same("no policy has lapsed", x.lapsedCount(), 0);
+        Check.same("19 are left", x.balance(0), 19);
+        Check.until(x, 24);
+        Check.same("none before", x.lapsedCount(), 0);
+        x.passHour(0, 0);
+        Check.same("four are paid", x.lapsedCount(), 16);
+        x.deposit(0, 1);
+        Check.until(x, 49);
+        Check.same("the first is paid", x.hasLapsed(0), false);
+        Check.same("the others have lapsed", x.lapsedCount(), 19);
+        x.deposit(0, 999);
+        Check.until(x, 70);
+        Check.same("over without lapsing", x.lapsedCount(), 19);
+        WeatherInsurance y = Check.with("holder a 1;assessor 0;", "kite a 60 1 1 0 0;hours 25 0 0;");
+        Check.same("the only one", y.lapsedCount(), 1);
     }
 
     private void lossRatio() {
@@ -850,18 +876,24 @@ final class PromiseSentences {
         x.buyKite(0, 1000, 24, 1, 0, 0);
         Check.same("at the end of the clock", x.isConsistent(), true);
         WeatherInsurance full = Check.with("holder a 9999;holder b 9999;assessor 0;assessor 9;assessor 9;reserve 9999;");
-        for (int policy = 0; policy < 20; policy++) {
-            full.buyKite(policy % 2, policy, 24, 500, 20, 60);
+        int[] winds = {0, 19, 20, 40, 60, 61, 62, 150};
+        for (int policy = 0; policy < 20; policy += 2) {
+            full.buyKite(policy % 4 / 2, policy, 24, policy == 0 ? 1 : 500, 20, 60);
+            full.buyPicnic(policy % 4 / 2, policy, 24, policy == 0 ? 1 : 50, 36);
         }
         for (int hour = 0; hour < 43; hour++) {
-            full.passHour(hour * 7 % 151, hour * 11 % 51);
+            full.passHour(winds[hour * 3 % 8], hour % 5 > 0 ? 1 + hour % 3 : 0);
+            Check.same("at " + hour, full.isConsistent(), true);
         }
         for (int policy = 0; policy < 20; policy++) {
             full.fileClaim(policy);
         }
         Check.same("all policies are claimed", full.isConsistent(), true);
         Check.until(full, 200);
-        Check.same("all claims are decided", full.isConsistent() && full.grantedPart() == 1f, true);
+        Check.same("all claims are decided", full.workload(0) + full.workload(1) + full.workload(2), 0);
+        Check.same("and it is still true", full.isConsistent(), true);
+        WeatherInsurance least = Check.with("holder a 9;assessor 0;", "kite a 0 1 1 5 9;hours 1 0 0;claim 0;hours 2 0 0;");
+        Check.same("a claim of 1 is paid", least.isConsistent() ? least.totalPaid() : 0, 1);
     }
 
     private void hoursUntilDecision() {

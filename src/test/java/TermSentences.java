@@ -314,6 +314,13 @@ final class TermSentences {
         Check.same("decided too", y.passHour(0, 0), 1);
         Check.same("paid in that hour", y.balance(0), 80);
         Check.same("lapsed before", y.hasLapsed(1), true);
+        // So does that of a claim that was granted long ago, when the reserve has come to suffice.
+        WeatherInsurance z = Check.with("holder a 12;holder b 999;assessor 0;reserve 0;",
+            "kite a 0 1 80 5 9;kite a 30 1 320 0 0;hours 1 0 0;claim 0;hours 23 0 0;kite b 90 24 120 0 0;");
+        Check.same("enough for the claim of 80", z.nextPayment() * 100 + z.reserve(), 85);
+        z.passHour(0, 0);
+        Check.same("paid", z.balance(0), 80);
+        Check.same("too late for the premium", z.hasLapsed(1), true);
     }
 
     private void premiumsAreDue() {

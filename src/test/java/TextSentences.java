@@ -262,6 +262,7 @@ final class TextSentences {
                 Check.badSetup("holder a 5;assessor 1;" + (char) sign, SYNTAX, 22);
                 Check.badScript("hours" + (char) sign + " 1 1 1;", SYNTAX, 5);
                 Check.badScript("hours 1" + (char) sign + " 1 1;", SYNTAX, 7);
+                Check.badScript("deposit " + (char) sign + " 1;", SYNTAX, 8);
             }
         }
         Check.badScript(";", SYNTAX, 0);
@@ -386,6 +387,12 @@ final class TextSentences {
         doc.test("Text errors", "SYNTAX: the token cannot stand at this place, is too long, or is a byte that starts no token, or "
             + "the text ends within a statement; a name of more than 6 letters is a syntax error, too.");
         Check.badSetup("holder holder holder;", SYNTAX, 14);
+        for (String text : new String[] {"holder a 5;", "assessor 5;", "reserve 5;"}) {
+            wrongLetters(text, text.indexOf(' '), true);
+        }
+        for (String text : new String[] {"hours 1 1 1;", "kite ann 0 1 1 0 0;", "picnic ann 0 1 1 0;", "claim 0;", "deposit ann 1;"}) {
+            wrongLetters(text, text.indexOf(' '), false);
+        }
         Check.badSetup("5 holder a;", SYNTAX, 0);
         Check.badScript("kite ann ann 1 1 0 0;", SYNTAX, 9);
         Check.badScript("hours hours 1 1;", SYNTAX, 6);
@@ -404,6 +411,18 @@ final class TextSentences {
         Check.badSetup("holder abcdefgh 5;", SYNTAX, 7);
         Check.badScript("deposit anncidb 5;", SYNTAX, 8);
         Check.same("six letters are a name", Check.with("holder abcdef 5;assessor 0;").holderCount(), 1);
+    }
+
+    /** Puts another letter into the first word, at each of its places. */
+    private static void wrongLetters(String text, int length, boolean isSetup) {
+        for (int place = 0; place < length; place++) {
+            String wrong = text.substring(0, place) + 'x' + text.substring(place + 1);
+            if (isSetup) {
+                Check.badSetup(wrong, SYNTAX, 0);
+            } else {
+                Check.badScript(wrong, SYNTAX, 0);
+            }
+        }
     }
 
     private void outOfRange() {
@@ -483,17 +502,18 @@ final class TextSentences {
         doc.test("Execution of scripts", "The statements of a script are executed one after the other as the methods passHour, "
             + "buyKite, buyPicnic, fileClaim and deposit.");
         WeatherInsurance x = new WeatherInsurance();
-        Check.whole(x, "kite ann 0 2 60 5 9;picnic bob 30 3 300 1;hours 2 4 7;claim 0;deposit cid 999;hours 25 8 1;");
+        Check.whole(x, "kite ann 0 4 60 5 9;picnic bob 30 3 300 1;hours 2 4 7;hours 2 9 7;claim 0;deposit cid 999;hours 25 8 1;");
         WeatherInsurance y = new WeatherInsurance();
-        y.buyKite(0, 0, 2, 60, 5, 9);
+        y.buyKite(0, 0, 4, 60, 5, 9);
         y.buyPicnic(1, 30, 3, 300, 1);
         Check.pass(y, 2, 4, 7);
+        Check.pass(y, 2, 9, 7);
         y.fileClaim(0);
         y.deposit(2, 999);
         Check.pass(y, 25, 8, 1);
         Check.same("the same is seen", Check.seen(x), Check.seen(y));
         Check.same("a policy has lapsed in both", x.hasLapsed(1), true);
-        Check.same("a claim was paid in both", x.isPaid(0), true);
+        Check.same("a claim for two hours of four was paid in both", x.isPaid(0) ? x.grantedAmount(0) : 0, 30);
     }
 
     private void executionEnds() {
@@ -508,6 +528,10 @@ final class TextSentences {
         stops(x, "picnic ann 0 1 1 0;");
         stops(x, "kite bob 1 24 100 0 0;");
         stops(x, "picnic bob 1 24 50 0;");
+        stops(x, "picnic bob 1 24 300 50;");
+        Check.whole(x, "picnic bob 1 24 295 50;");
+        Check.same("a premium of 60 of 60", x.balance(1), 0);
+        x.undo();
         stops(x, "claim 0;");
         stops(x, "claim 1;");
         stops(x, "claim 2;");
